@@ -267,12 +267,11 @@ public final class LockWives {
         if (!canal.fleet.hasAll(boats) || !canal.fleet.areTogether(boats)) {
             return NONE;
         }
-        int first = Integer.numberOfTrailingZeros(boats);
-        int lock = canal.lockOnWay(canal.fleet.where[first], up);
+        int lock = canal.lockOnWay(canal.fleet.poolOfFirst(boats), up);
         if (lock == NONE || canal.fleet.broadest(boats) > canal.wide[lock]) {
             return NONE;
         }
-        return fewestPassings(canal.fleet.broad, boats, canal.wide[lock]);
+        return canal.fleet.fewestPassings(boats, 0, canal.wide[lock]);
     }
 
     public int later(int n, int what, int a, int b) {
@@ -421,22 +420,6 @@ public final class LockWives {
         return true;
     }
 
-    /** Each call takes a boat out of the set, so that it goes at most six deep. */
-    private static int fewestPassings(int[] broad, int boats, int wide) {
-        int first = Integer.numberOfTrailingZeros(boats);
-        if (first >= broad.length) {
-            return 0;
-        }
-        int others = boats & ~(1 << first);
-        int fewest = fewestPassings(broad, others, wide);
-        for (int mate = first + 1; mate < broad.length; mate++) {
-            if ((others >> mate & 1) == 1 && broad[first] + broad[mate] <= wide) {
-                fewest = Math.min(fewest, fewestPassings(broad, others & ~(1 << mate), wide));
-            }
-        }
-        return fewest + 1;
-    }
-
     /** All that the image keeps. */
     private static final class Whole {
         final Law gates = new Law(false);
@@ -505,16 +488,25 @@ public final class LockWives {
             return cargo[boat * GOODS + good];
         }
 
-        boolean areTogether(int boats) {
-            int pool = NONE;
+        static boolean isIn(int boats, int boat) {
+            return (boats >> boat & 1) == 1;
+        }
+
+        int poolOfFirst(int boats) {
             for (int boat = 0; boat < count; boat++) {
-                if ((boats >> boat & 1) == 0) {
-                    continue;
+                if (isIn(boats, boat)) {
+                    return where[boat];
                 }
-                if (pool != NONE && where[boat] != pool) {
+            }
+            return NONE;
+        }
+
+        boolean areTogether(int boats) {
+            int pool = poolOfFirst(boats);
+            for (int boat = 0; boat < count; boat++) {
+                if (isIn(boats, boat) && where[boat] != pool) {
                     return false;
                 }
-                pool = where[boat];
             }
             return pool != NONE;
         }
@@ -522,11 +514,28 @@ public final class LockWives {
         int broadest(int boats) {
             int most = 0;
             for (int boat = 0; boat < count; boat++) {
-                if ((boats >> boat & 1) == 1) {
+                if (isIn(boats, boat)) {
                     most = Math.max(most, broad[boat]);
                 }
             }
             return most;
+        }
+
+        /** Each call goes on to the next boat, so that it goes at most seven deep. */
+        private int fewestPassings(int boats, int first, int wide) {
+            if (first >= count) {
+                return 0;
+            }
+            if (!isIn(boats, first)) {
+                return fewestPassings(boats, first + 1, wide);
+            }
+            int fewest = fewestPassings(boats, first + 1, wide);
+            for (int mate = first + 1; mate < count; mate++) {
+                if (isIn(boats, mate) && broad[first] + broad[mate] <= wide) {
+                    fewest = Math.min(fewest, fewestPassings(boats & ~(1 << mate), first + 1, wide));
+                }
+            }
+            return fewest + 1;
         }
     }
 
@@ -572,7 +581,7 @@ public final class LockWives {
 
         void receive(int lock, int boat, int delight) {
             likeMore(lock, boat, delight);
-            mood[lock] = held(mood[lock] + Integer.signum(delight), MOST_FEELING);
+            mood[lock] = held(mood[lock] + Integer.compare(delight, 0), MOST_FEELING);
             if (delight > 0 && rival[lock] != NONE) {
                 likeMore(rival[lock], boat, -(delight / 2));
             }
@@ -583,15 +592,14 @@ public final class LockWives {
         void gossip(int locks, int boats) {
             for (int lock = 0; lock + 1 < locks; lock++) {
                 for (int boat = 0; boat < boats; boat++) {
-                    int apart = likingOf(lock + 1, boat) - likingOf(lock, boat);
-                    likeMore(lock, boat, Integer.signum(apart));
+                    likeMore(lock, boat, Integer.compare(likingOf(lock + 1, boat), likingOf(lock, boat)));
                 }
             }
         }
 
         void calmDown(int locks) {
             for (int lock = 0; lock < locks; lock++) {
-                mood[lock] -= Integer.signum(mood[lock]);
+                mood[lock] -= Integer.compare(mood[lock], 0);
             }
         }
 
@@ -1175,7 +1183,7 @@ public final class LockWives {
         }
 
         /** Tries the lesser numbers first, so that of several orders the first one stays. */
-        void tryOrders(int level, int left, boolean up, int gone) {
+        private void tryOrders(int level, int left, boolean up, int gone) {
             if (left == 0 && gone > most) {
                 most = gone;
                 System.arraycopy(tried, 0, best, 0, best.length);
@@ -1184,7 +1192,7 @@ public final class LockWives {
                 return;
             }
             for (int boat = 0; boat < MOST_BOATS; boat++) {
-                if ((left >> boat & 1) == 0) {
+                if (!Fleet.isIn(left, boat)) {
                     continue;
                 }
                 Canal then = levels[level + 1];

@@ -312,6 +312,7 @@ public final class PromisesTest {
         Check.faulty(x, 0, "let\t;", 1, 3);
         Check.faulty(x, 0, "let when;", 1, 8);
         Check.faulty(x, 0, "let when 1;", 1, 10);
+        Check.faulty(x, 0, "let when 1 2=2;", 1, 11);
         Check.faulty(x, 0, "let when 1<2<3;", 1, 12);
         Check.faulty(x, 0, "let when (1)=1;", 1, 11);
         Check.faulty(x, 0, "let when (1=1;", 1, 13);
@@ -463,7 +464,8 @@ public final class PromisesTest {
         x.hours(3);
         String[] so = {"liking=7", "mood=0-1", "rival=0-9", "lock=1", "above=90", "below=70", "hour=3", "draught=10",
             "up=0", "passes=0", "two=0", "not two=1", "2+3*4=14", "20-5-5=10", "7/2*2=6", "0-7/2=0-3",
-            "1=1 or 1=2 and 1=2", "not 1=2 and 1=1", "not(1=2 or 1=1)or 1=1", "1<2", "2>1", "8/2/2=2"};
+            "1=1 or 1=2 and 1=2", "not 1=2 and 1=1", "not(1=2 or 1=1)or 1=1", "1<2", "2>1", "8/2/2=2", "7/1=7",
+            "2>1 and 1<2 and 3=3"};
         int ofThisLock = 6;
         for (int i = 0; i < so.length; i++) {
             Check.due(so[i], Check.text(x, 0, "let when " + so[i] + ";hold;"), 2);
@@ -471,11 +473,19 @@ public final class PromisesTest {
             Check.text(x, 0, "hold when " + so[i] + ";let;");
             Check.due("hold when " + so[i], x.far(0, false, 1), -3);
         }
+        for (String b : new String[] {"not 1=1", "not not 1=2", "1=1 and 2=1", "1=2 or 2=1", "1<1", "1>1", "2=1", "not(1=1)"}) {
+            Check.text(x, 0, "let when " + b + ";hold;");
+            Check.due("let when " + b, x.far(0, false, 1), -3);
+        }
         int wrapped = 9999 * 9999 * 9999;
         Check.text(x, 0, "hold when 9999*9999*9999" + (wrapped > 0 ? "<0" : ">0") + ";");
         Check.due("ints wrap", x.far(0, false, 0), 2);
         Check.text(x, 0, "let when up=1;hold when two=1;");
         Check.due("two", x.pass(0, false, 1), -3);
+        Check.text(x, 0, "hold when two=1 and draught=20 and lock=1;");
+        Check.due("two, of the other one", x.pass(0, false, 1), -3);
+        Check.due("two, of the first one", x.pass(1, false, 0), -3);
+        Check.text(x, 0, "let when up=1;hold when two=1;");
         Check.due("yes without a line", x.pass(0, false, NONE), 1);
         Check.text(x, 0, "hold when lock=1 and not passes=1;");
         Check.due("passes", x.pass(1, false, NONE), 1);
@@ -484,6 +494,10 @@ public final class PromisesTest {
         Check.due("above", x.pass(1, true, NONE), 1);
         Check.text(x, 0, "hold when rival=0;");
         Check.due("no rival", x.pass(1, true, NONE), -3);
+        x.lock(0, 4, 2);
+        x.lock(2, 21, 6);
+        Check.text(x, 0, "let when rival=6;hold;");
+        Check.due("her rival's liking of this boat", x.pass(1, true, NONE), 0);
     }
 
     private static void presents() {
@@ -519,6 +533,9 @@ public final class PromisesTest {
         Check.due("no lock", x.give(0, 2, 1, -1), IMPOSSIBLE);
         Check.due("nothing is done", x.look(9), 3);
         Check.due("cargo", x.of(0, 12), 4);
+        x.boat(1, 1, 1);
+        x.load(1, 10, 9);
+        Check.due("no good", x.give(0, 4, 1, 1), IMPOSSIBLE);
         x.load(0, 0, 3);
         Check.due("no lock below", x.give(0, 2, 1, 3), IMPOSSIBLE);
         Check.due("0", x.give(0, 2, 4, 2), 0);
@@ -618,7 +635,10 @@ public final class PromisesTest {
         Check.due("sea", x.look(3), -40);
         Check.due("mood", x.at(0, 3), 0);
         Check.due("gossip goes on", x.at(1, 20), 7);
-        Check.due("book", x.book(0, 0), 2);
+        int[] line = {2, 4, NONE, NONE, 40};
+        for (int what = 0; what < 5; what++) {
+            Check.due("book " + what, x.book(0, what), line[what]);
+        }
         Check.due("HOUR", x.look(2), 4);
         Check.due("0", x.hours(0), NONE);
         Check.due("-1", x.hours(-1), NONE);
@@ -661,6 +681,22 @@ public final class PromisesTest {
         Check.due("lock", x.book(0, 2), NONE);
         Check.due("boat", x.book(0, 3), NONE);
         Check.due("shower", x.book(0, 4), 20);
+        for (int before = 0; before < 5; before++) {
+            int drawn = ((before * 1664525 + 1013904223) >>> 8) % 1000;
+            x.set(0, drawn);
+            x.state(before);
+            Check.due("a draw of RAIN is none", x.hours(1), 0);
+            x.set(0, drawn + 1);
+            x.state(before);
+            Check.due("a draw below RAIN is one", x.hours(1), 1);
+        }
+        int dry = 0;
+        while (((dry * 1664525 + 1013904223) >>> 8) % 1000 != 0) {
+            dry++;
+        }
+        x.set(0, 1);
+        x.state(dry);
+        Check.due("the least rain", x.hours(1), 1);
         x.canal(1);
         x.set(0, 1000);
         Check.due("rain of 0 is rain", x.hours(5), 5);
@@ -694,6 +730,12 @@ public final class PromisesTest {
         x.pool(0, 0);
         Check.text(x, 2, "pull 0 9;wait 1;");
         Check.due("a pull without water is no refusal", x.run(), 2);
+        x.boat(1, 1, 1);
+        x.load(1, 12, 7);
+        Check.text(x, 2, "give 3 of 2 to 1 by 1;pull 1 2;");
+        Check.due("give", x.run(), 2);
+        Check.due("presents", x.at(1, 6), 1);
+        Check.due("cargo", x.of(1, 12), 4);
         Check.text(x, 2, "pass 0 up with 0;");
         Check.due("with itself", x.run(), 0);
         Check.due("with itself", x.planned(1), NONE);
@@ -816,6 +858,9 @@ public final class PromisesTest {
         Check.due("another what", x.please(0, 1, 0, 1), NONE);
         Check.due("another what", x.please(0, 1, 0, 9), NONE);
         Check.due("no boat", x.please(1, 1, 0, 0), NONE);
+        Check.text(x, 0, "");
+        Check.due("good", x.please(0, 0, 0, 0), 0);
+        Check.due("good", x.please(0, 3, 0, 0), 0);
         Check.due("no good", x.please(0, 4, 0, 0), NONE);
         Check.due("no good", x.please(0, -1, 0, 0), NONE);
         Check.due("no pool", x.please(0, 1, 4, 0), NONE);
@@ -828,12 +873,20 @@ public final class PromisesTest {
         LockWives x = canal("promises 24 and 25", 2);
         Check.due("least", x.range(1, 0), 0);
         Check.due("greatest", x.range(1, 1), 300);
+        Check.due("no pool", x.range(3, 0), NONE);
+        Check.due("no pool", x.range(-1, 0), NONE);
+        Check.due("another what", x.range(1, 2), NONE);
+        Check.due("another what", x.range(1, -1), NONE);
         Check.due("said", x.said(0, 1, 40), 1);
         Check.due("said", x.said(2, 1, 50), 2);
         Check.due("least", x.range(1, 0), 210);
         Check.due("greatest", x.range(1, 1), 300);
         Check.due("said", x.said(2, 0, 20), 3);
         Check.due("greatest", x.range(1, 1), 280);
+        Check.due("least", x.range(2, 0), 20);
+        Check.due("greatest", x.range(2, 1), 50);
+        Check.due("least", x.range(0, 0), 0);
+        Check.due("greatest", x.range(0, 1), 40);
         Check.due("said", x.said(1, 1, 210), 4);
         Check.due("just one way", x.range(1, 0), 210);
         Check.due("just one way", x.range(2, 0), 50);
@@ -861,15 +914,17 @@ public final class PromisesTest {
         x.said(0, 0, 10);
         x.said(0, 1, 9);
         Check.due("at odds", x.range(1, 0), NONE);
-        Check.due("another what", x.range(1, 2), NONE);
-        Check.due("another what", x.range(1, -1), NONE);
-        Check.due("no pool", x.range(3, 0), NONE);
-        Check.due("no pool", x.range(-1, 0), NONE);
         x.said(NONE, 0, 0);
         x.said(0, 0, 999);
         x.said(1, 0, 999);
         x.said(2, 0, 101);
         Check.due("more than there is", x.range(2, 1), NONE);
+        x.pool(2, 101);
+        Check.due("just what there is", x.range(2, 1), 101);
+        x.canal(1);
+        x.said(0, 0, 70);
+        Check.due("greatest of its own", x.range(0, 1), 200);
+        Check.due("greatest of the other", x.range(1, 1), 130);
     }
 
     private static void seenAndNeeded() {
@@ -908,14 +963,21 @@ public final class PromisesTest {
         Check.due("spilling", x.pulled(0), 1);
         Check.due("lock", x.pulled(1), 1);
         Check.due("20 times", x.pulled(2), 20);
+        Check.due("another what", x.pulled(3), NONE);
+        Check.due("another what", x.pulled(-1), NONE);
+        x.tell(0, 3, 101);
+        Check.due("but for the last pool", x.pulled(0), 0);
+        x.tell(0, 3, 100);
+        x.tell(0, 0, 101);
+        Check.due("but for the first pool", x.pulled(0), 0);
+        x.tell(0, 0, 100);
+        Check.due("once more", x.pulled(0), 1);
         x.tell(0, 1, 310);
         x.tell(0, 2, 890);
         Check.due("not 21 times", x.pulled(0), 0);
         x.tell(0, 1, 109);
         x.pool(1, 0);
         Check.due("never by parts", x.pulled(0), 0);
-        Check.due("another what", x.pulled(3), NONE);
-        Check.due("another what", x.pulled(-1), NONE);
         x.canal(1);
         x.tell(0, 0, 5);
         x.tell(0, 1, 100);
@@ -932,6 +994,10 @@ public final class PromisesTest {
         x.lock(0, 0, 7);
         x.lock(2, 0, 15);
         Check.due("none", x.mend(0), 0);
+        x.lock(2, 0, 1);
+        x.tell(1, 3, 103);
+        Check.due("one by one", x.mend(12), 3);
+        x.lock(2, 0, 15);
         x.tell(1, 3, 101);
         x.tell(1, 2, 100);
         x.tell(1, 1, 90);
@@ -1014,6 +1080,8 @@ public final class PromisesTest {
         Check.due("down", x.share(63, false), 3);
         Check.due("two threes", x.share(0b000110, true), 2);
         Check.due("two twos", x.share(0b010010, true), 1);
+        Check.due("neighbours", x.share(0b000011, true), 1);
+        Check.due("the last two", x.share(0b110000, true), 1);
         Check.due("one", x.share(8, true), 1);
         x.lock(0, 2, 3);
         Check.due("too broad", x.share(8, true), NONE);
@@ -1025,7 +1093,13 @@ public final class PromisesTest {
         Check.text(x, 0, "hold;");
         Check.due("nothing else asked", x.share(63, false), 3);
         x.load(0, 0, 0);
+        x.lock(0, 2, 9);
         Check.due("unlike pools", x.share(63, false), NONE);
+        Check.due("unlike pools", x.share(3, false), NONE);
+        Check.due("none", x.share(0, false), NONE);
+        Check.due("no such boat", x.share(64, false), NONE);
+        Check.due("no such boat", x.share(65, false), NONE);
+        Check.due("no such boat", x.share(-1, false), NONE);
         Check.due("no lock", x.share(1, true), NONE);
         Check.due("down", x.share(1, false), 1);
         x.load(0, 0, 2);
@@ -1136,6 +1210,9 @@ public final class PromisesTest {
         x.load(0, 10, 9);
         x.set(0, 1000);
         x.set(1, 50);
+        for (int what = 0; what < 4; what++) {
+            Check.due("no plan", x.planned(what), 0);
+        }
         Check.text(x, 2, "give 2 of 0 to 0 by 0;give 3 of 0 to 0 by 0;pass 0 down;wait 9;pull 0 9;pull 0 9;pull 1 1;");
         Check.due("steps", x.planned(0), 7);
         Check.due("none", x.planned(1), 0);
@@ -1151,6 +1228,7 @@ public final class PromisesTest {
             Check.text(x, 2, plan[i]);
             Check.due(plan[i], x.planned(0), 0);
             Check.due(plan[i], x.planned(1), why[i]);
+            Check.due(plan[i], x.planned(2) + x.planned(3), 0);
         }
         Check.text(x, 0, "");
         Check.text(x, 2, "pull 0 9;pull 0 1;pass 0 down;wait 1;");
@@ -1276,7 +1354,9 @@ public final class PromisesTest {
             Check.text(x, 1, "like 1;like 2;");
             Check.text(x, 2, "pull 0 1;");
             x.state(1);
-            x.hours(3);
+            for (int i = 0; i < 5; i++) {
+                x.pull(0, 1);
+            }
             x.said(0, 0, 1);
             x.feed(0x6c65743b, 0, 0, 0, 0);
             x.end(4);
