@@ -23,7 +23,7 @@ public final class LockWives {
 
     public LockWives() {
         now.begin(4);
-        now.canal.record(now.book, past);
+        now.canal.writeInto(now.book, past);
     }
 
     // ---- what is told
@@ -664,9 +664,9 @@ public final class LockWives {
             this.hearts = hearts;
         }
 
-        void record(Book inBook, Past inPast) {
-            book = inBook;
-            past = inPast;
+        void writeInto(Book ownBook, Past ownPast) {
+            book = ownBook;
+            past = ownPast;
         }
 
         void begin(int howMany) {
