@@ -91,16 +91,16 @@ public final class LockWives {
 
     public int text(int which) {
         tape.clearFault();
-        if (!within(which, 0, 2)) {
-            return NONE;
-        }
         tape.split();
-        int lines;
-        if (which == 2) {
+        int lines = NONE;
+        if (which == 0) {
+            lines = now.gates.read(tape);
+        } else if (which == 1) {
+            lines = now.hearts.read(tape);
+        } else if (which == 2) {
             lines = now.plan.read(tape, now.canal.locks, now.canal.fleet.count);
-        } else {
-            lines = which == 0 ? now.gates.read(tape) : now.hearts.read(tape);
         }
+        // Whatever came of it, even of no such one: only the LAW or THE PLAN stays as it was.
         tape.length = 0;
         return lines;
     }

@@ -707,11 +707,11 @@ final class Mirror {
     int text(int which) {
         fault = 0;
         place = NONE;
+        Reader reader = new Reader(tape.toString(), which == 1);
+        tape.setLength(0);
         if (which < 0 || which > 2) {
             return NONE;
         }
-        Reader reader = new Reader(tape.toString(), which == 1);
-        tape.setLength(0);
         List<Line> law = List.of();
         List<Step> plan = List.of();
         try {

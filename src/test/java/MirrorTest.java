@@ -236,6 +236,9 @@ public final class MirrorTest {
             int none = near(3, 5);
             same("text " + none, x.text(none), y.text(none));
             same("fault 0", x.fault(0), y.fault(0));
+            if (below(2) == 0) {
+                feed(text.toString());
+            }
         }
         same("text " + which + " of " + text, x.text(which), y.text(which));
         for (int what = -1; what <= 2; what++) {

@@ -283,6 +283,14 @@ public final class PromisesTest {
             Check.due("no such text", x.text(which), NONE);
             Check.due("fault", x.fault(0), 0);
             Check.due("fault", x.fault(1), NONE);
+            Check.due("feed", x.feed(0, 0, 0, 0, 0), 20);
+            Check.due("no such text", x.text(which), NONE);
+            Check.due("emptied by no such text", x.end(1), false);
+            Check.due("feed", x.feed(0, 0, 0, 0, 0), 20);
+            Check.due("end", x.end(0), true);
+            Check.due("look(6)", x.look(6), 3);
+            Check.due("look(7)", x.look(7), 2);
+            Check.due("look(8)", x.look(8), 2);
         }
         Check.due("16 lines", Check.text(x, 0, Check.repeat("let;", 16)), 16);
         Check.due("30 steps", Check.text(x, 2, Check.repeat("wait 1;", 30)), 30);
