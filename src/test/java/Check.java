@@ -1,5 +1,11 @@
+import java.util.function.IntPredicate;
+import java.util.function.IntSupplier;
+import java.util.function.IntUnaryOperator;
+
 /** What the tests share: calls whose answers are compared, and texts that are fed to the tape. */
 final class Check {
+    static final int[] FAR_OFF = {Integer.MIN_VALUE, Integer.MIN_VALUE + 1, Integer.MAX_VALUE - 1, Integer.MAX_VALUE};
+
     private static int calls = 0;
     private static int wrong = 0;
     private static String part = "";
@@ -21,6 +27,75 @@ final class Check {
 
     static void due(String call, boolean got, boolean want) {
         due(call, got ? 1 : 0, want ? 1 : 0);
+    }
+
+    /** A number that is told: taken just at both bounds, refused beyond them, and what was told stays then. */
+    static void bounds(String what, int low, int high, IntPredicate tell, IntSupplier told) {
+        for (int v : new int[] {low, high}) {
+            due(what + " " + v, tell.test(v), true);
+            due(what + " is " + v, told.getAsInt(), v);
+        }
+        for (int v : new int[] {low - 1, high + 1}) {
+            due(what + " " + v, tell.test(v), false);
+            due(what + " stays ahead of " + v, told.getAsInt(), high);
+        }
+        for (int v : FAR_OFF) {
+            due(what + " " + v, tell.test(v), false);
+        }
+        due(what + " stays", told.getAsInt(), high);
+    }
+
+    /** A call that has no answer but this one just beyond two bounds, and far beyond them. */
+    static void beyond(String what, int low, int high, IntUnaryOperator call, int answer) {
+        due(what + " " + (low - 1), call.applyAsInt(low - 1), answer);
+        due(what + " " + (high + 1), call.applyAsInt(high + 1), answer);
+        for (int v : FAR_OFF) {
+            due(what + " " + v, call.applyAsInt(v), answer);
+        }
+    }
+
+    /** All that can be seen of an object without the book's older lines. */
+    static int[] sight(LockWives x) {
+        int[] all = new int[1000];
+        int count = 0;
+        int n = x.look(0);
+        int boats = x.look(1);
+        for (int what = 0; what <= 40 + n; what++) {
+            if (what < 12 || what >= 20 && what < 25 || what >= 30 && what <= 30 + n || what >= 40) {
+                all[count++] = x.look(what);
+            }
+        }
+        for (int pool = 0; pool <= n; pool++) {
+            all[count++] = x.depth(pool);
+        }
+        for (int lock = 0; lock < n; lock++) {
+            for (int what = 0; what < 20 + boats; what++) {
+                if (what < 7 || what >= 10 && what < 14 || what >= 20) {
+                    all[count++] = x.at(lock, what);
+                }
+            }
+        }
+        for (int boat = 0; boat < boats; boat++) {
+            for (int what = 0; what < 14; what++) {
+                if (what < 3 || what >= 10) {
+                    all[count++] = x.of(boat, what);
+                }
+            }
+        }
+        for (int what = 0; what < 5; what++) {
+            all[count++] = x.book(x.look(4) - 1, what);
+        }
+        all[count++] = x.fault(0);
+        all[count++] = x.fault(1);
+        return java.util.Arrays.copyOf(all, count);
+    }
+
+    static void same(String call, LockWives x, int[] before) {
+        int[] now = sight(x);
+        due(call + ", as much is seen", now.length, before.length);
+        for (int i = 0; i < Math.min(now.length, before.length); i++) {
+            due(call + ", seen " + i, now[i], before[i]);
+        }
     }
 
     /** Puts a text alone on the tape. */
