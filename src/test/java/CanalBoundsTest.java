@@ -33,6 +33,7 @@ public final class CanalBoundsTest {
         spillsOfTides();
         tapeOf400();
         endOfTape();
+        firstBytesAlone();
         highestByteFirst();
         looks();
         sights();
@@ -84,6 +85,12 @@ public final class CanalBoundsTest {
                 x.state(state);
                 x.set(0, drawn + 1);
                 Check.due("drawn " + drawn + ", RAIN one above it", x.hours(1), 1);
+                x.state(state);
+                x.set(0, 1000);
+                Check.due("drawn " + drawn + ", RAIN 1000", x.hours(1), 1);
+                x.state(state);
+                x.set(0, 1);
+                Check.due("drawn " + drawn + ", RAIN 1", x.hours(1), drawn == 0 ? 1 : 0);
                 if (drawn > 0) {
                     x.state(state);
                     x.set(0, drawn);
@@ -217,6 +224,10 @@ public final class CanalBoundsTest {
                 x.boat(boat % (n + 1), 1 + boat, 1 + boat);
             }
             Check.same("canal", x, fresh);
+            x.load(0, 10, 9);
+            x.lock(0, 10, 2);
+            Check.due("HEARTS have no line", x.give(0, 0, 3, 0), 6);
+            Check.due("GATES have no line", x.pass(0, false, NONE), 0);
         }
     }
 
@@ -614,6 +625,28 @@ public final class CanalBoundsTest {
         Check.due("behind the four", x.feed(0x6c65743b, 0x6c65743b, 0x6c65743b, 0x6c65743b, 0x20686f6c), 24);
         Check.due("end", x.end(20), true);
         Check.due("five lines", x.text(0), 5);
+    }
+
+    /** What is cut off stands no longer behind what is left, be it a word, a number or a blank. */
+    private static void firstBytesAlone() {
+        LockWives x = canal("10: The TAPE has its first n bytes alone", 1);
+        x.feed(0x6c696b65, 0x20313233, 0x34353b20, 0x20202020, 0x20202020);
+        x.end(9);
+        Check.due("like 1234 of like 12345;", x.text(1), NONE);
+        Check.due("no word is wrong", x.fault(0), 1);
+        Check.due("but the end", x.fault(1), 9);
+        x.feed(0x6c696b65, 0x206d6f6f, 0x64793b20, 0x20202020, 0x20202020);
+        x.end(9);
+        Check.due("like mood of like moody;", x.text(1), NONE);
+        Check.due("but the end", x.fault(1), 9);
+        x.feed(0x6c696b65, 0x206d6f6f, 0x643b2020, 0x20202020, 0x20202020);
+        x.end(8);
+        Check.due("like moo of like mood;", x.text(1), NONE);
+        Check.due("the word", x.fault(1), 5);
+        x.feed(0x6c696b65, 0x20313233, 0x34353b20, 0x20202020, 0x20202020);
+        x.end(9);
+        x.feed(0x3b202020, 0x20202020, 0x20202020, 0x20202020, 0x20202020);
+        Check.due("like 1234;", x.text(1), 1);
     }
 
     private static void highestByteFirst() {

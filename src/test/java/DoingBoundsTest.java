@@ -93,34 +93,22 @@ public final class DoingBoundsTest {
     }
 
     private static void refusedPassingDoesNothing() {
-        LockWives x = canal("13: refused, doing nothing", 2);
-        x.boat(0, 99, 2);
-        x.boat(0, 10, 3);
-        x.boat(2, 10, 3);
-        x.pull(1, 1);
-        x.pool(1, 80);
-        x.pull(0, 1);
-        int[] before = Check.sight(x);
-        Check.due("NONE", x.pass(1, true, NONE), NONE);
-        Check.same("NONE", x, before);
-        Check.due("-2", x.pass(0, false, 1), -2);
-        Check.same("-2", x, before);
-        Check.text(x, 0, "hold when lock=0;");
-        before = Check.sight(x);
-        Check.due("-3", x.pass(1, false, NONE), -3);
-        Check.same("-3", x, before);
-        x.pool(1, 88);
-        Check.text(x, 0, "");
-        x.pull(1, 1);
-        before = Check.sight(x);
-        Check.due("-5", x.pass(0, false, NONE), -5);
-        Check.same("-5", x, before);
-        x.pool(0, 9);
-        x.pull(1, 1);
-        before = Check.sight(x);
-        Check.due("-4", x.pass(1, false, NONE), -4);
-        Check.same("-4", x, before);
-        Check.due("what can be undone stays", x.undo(), true);
+        for (int why = -5; why <= NONE; why++) {
+            LockWives x = canal("13: refused, doing nothing", 2);
+            x.boat(0, why == -5 ? 99 : 10, 2);
+            x.boat(0, 10, 2);
+            x.boat(2, 10, 2);
+            x.pool(0, why == -4 ? 9 : 100);
+            x.pool(1, 80);
+            x.lock(0, 2, why == -2 ? 3 : 4);
+            Check.text(x, 0, why == -3 ? "hold when lock=0;" : "");
+            x.pull(1, 1);
+            x.hours(1);
+            int[] before = Check.sight(x);
+            Check.due("why", x.pass(0, false, why == NONE ? 2 : 1), why);
+            Check.same("refused by " + why, x, before);
+            Check.due("what can be undone stays", x.look(9), 2);
+        }
     }
 
     private static void breadth() {
@@ -295,10 +283,16 @@ public final class DoingBoundsTest {
             Check.due("none is left", x.of(0, 10 + good), 0);
             Check.due("PRESENTS", x.at(0, 6), 3 * (good + 1));
         }
-        x.load(0, 10, 9);
-        x.load(0, 13, 9);
-        Check.beyond("GOOD", 0, 3, good -> x.give(0, good, 1, 0), IMPOSSIBLE);
-        Check.beyond("BOAT", 0, 0, boat -> x.give(boat, 0, 1, 0), IMPOSSIBLE);
+        x.boat(0, 1, 1);
+        for (int boat = 0; boat < 2; boat++) {
+            x.load(boat, 10, 9);
+            x.load(boat, 13, 9);
+        }
+        for (int boat = 0; boat < 2; boat++) {
+            int b = boat;
+            Check.beyond("GOOD", 0, 3, good -> x.give(b, good, 1, 0), IMPOSSIBLE);
+        }
+        Check.beyond("BOAT", 0, 1, boat -> x.give(boat, 0, 1, 0), IMPOSSIBLE);
         Check.beyond("LOCK", 0, 0, lock -> x.give(0, 0, 1, lock), IMPOSSIBLE);
     }
 

@@ -32,6 +32,10 @@ public final class LawBoundsTest {
         intsThatWrap();
         partsTowardsZero();
         firstLineThatIsSo();
+        factsOfGates();
+        factsThatChange();
+        factsOfBothBoats();
+        factsOfHearts();
         longestTexts();
         delightIsHeld();
         tasteWithoutALine();
@@ -510,6 +514,142 @@ public final class LawBoundsTest {
             Check.due(hearts[i], Check.text(x, 1, hearts[i]) > 0, true);
             Check.due(hearts[i], x.give(0, 0, 3, 1), d[i]);
             x.undo();
+        }
+    }
+
+    /** Just as much as it is, neither one more nor one less. */
+    private static void is(LockWives x, String fact, boolean up, int v) {
+        String number = v < 0 ? "0-" + -v : "" + v;
+        right(x, 0, "let when " + fact + "=" + number + ";hold;", 2);
+        Check.due(fact + " is " + v, x.pass(0, up, NONE) >= 0, true);
+        Check.due("undo", x.undo(), true);
+        right(x, 0, "hold when " + fact + "=" + number + ";", 1);
+        Check.due(fact + " is " + v, x.pass(0, up, NONE), -3);
+    }
+
+    private static LockWives facts() {
+        LockWives x = canal("2: what of GATES is liking, mood, rival, lock, hour, draught, above, below, up, passes, two");
+        x.boat(1, 20, 1);
+        x.lock(0, 20, -99);
+        x.lock(1, 20, 99);
+        x.lock(0, 21, 50);
+        x.lock(1, 21, 51);
+        x.lock(0, 3, 99);
+        x.lock(1, 3, -99);
+        return x;
+    }
+
+    private static void factsOfGates() {
+        for (boolean up : new boolean[] {true, false}) {
+            LockWives x = facts();
+            is(x, "rival", up, 0);
+            x.lock(0, 4, 1);
+            x.lock(1, 4, 0);
+            x.pool(0, 999);
+            x.pool(1, 998);
+            x.pool(2, 997);
+            x.load(0, 1, 99);
+            is(x, "liking", up, up ? -99 : 99);
+            is(x, "rival", up, up ? 99 : -99);
+            is(x, "mood", up, up ? 99 : -99);
+            is(x, "lock", up, up ? 0 : 1);
+            is(x, "hour", up, 0);
+            is(x, "draught", up, 99);
+            is(x, "above", up, up ? 999 : 998);
+            is(x, "below", up, up ? 998 : 997);
+            is(x, "up", up, up ? 1 : 0);
+            is(x, "passes", up, 0);
+            is(x, "two", up, 0);
+        }
+    }
+
+    private static void factsThatChange() {
+        LockWives x = facts();
+        x.pass(1, true, NONE);
+        x.pass(1, false, NONE);
+        x.pass(1, false, NONE);
+        is(x, "passes", true, 2);
+        is(x, "passes", false, 1);
+        x.hours(7);
+        is(x, "hour", true, 7);
+        is(x, "mood", true, 92);
+        x.load(0, 1, 10);
+        x.pool(0, 100);
+        x.pool(1, 89);
+        is(x, "below", true, 89);
+        x.pool(2, 0);
+        is(x, "below", false, 0);
+        is(x, "draught", false, 10);
+    }
+
+    private static void factsOfBothBoats() {
+        LockWives x = canal("2: of two each is asked for by what is its own");
+        x.boat(1, 20, 1);
+        x.lock(1, 20, 7);
+        x.lock(1, 21, 8);
+        x.lock(0, 20, 17);
+        x.lock(0, 21, 18);
+        x.lock(1, 4, 0);
+        String[] facts = {"liking=7", "liking=8", "rival=17", "rival=18", "draught=10", "draught=20"};
+        for (int i = 0; i < facts.length; i++) {
+            right(x, 0, "hold when " + facts[i] + ";", 1);
+            for (int boat = 0; boat < 2; boat++) {
+                Check.due(facts[i] + ", boat " + boat + " first", x.pass(boat, false, 1 - boat), -3);
+                Check.due(facts[i] + ", boat " + boat + " alone", x.pass(boat, false, NONE), i % 2 == boat ? -3 : 1);
+                x.undo();
+            }
+        }
+        right(x, 0, "let when two=1;hold;", 2);
+        Check.due("two is 1 for both", x.pass(0, false, 1), 1);
+        x.undo();
+        right(x, 0, "let when passes=0 and up=0 and above=100 and below=100;hold;", 2);
+        Check.due("nothing has flowed yet for the other one", x.pass(0, false, 1), 1);
+    }
+
+    private static void factsOfHearts() {
+        LockWives x = canal("2: what of HEARTS is liking, mood, rival, lock, hour, good, amount, taste, presents");
+        x.boat(1, 20, 1);
+        for (int lock = 0; lock < 2; lock++) {
+            int k = 1 - lock;
+            int[] told = {k == 0 ? 77 : -66, k == 0 ? 55 : -44, k, 3, 9, k == 0 ? -9 : 9, 0};
+            String[] facts = {"liking", "mood", "lock", "good", "amount", "taste", "presents"};
+            x.lock(k, 20, told[0]);
+            x.lock(k, 3, told[1]);
+            x.lock(k, 13, told[5]);
+            for (int i = 0; i < facts.length; i++) {
+                right(x, 1, "like " + facts[i] + ";", 1);
+                Check.due(facts[i] + " of lock " + k, x.give(0, 3, 9, k), told[i]);
+                Check.due("undo", x.undo(), true);
+            }
+            right(x, 1, "like rival;", 1);
+            Check.due("no rival", x.give(0, 3, 9, k), 0);
+            Check.due("undo", x.undo(), true);
+        }
+        right(x, 1, "like rival;", 1);
+        x.lock(0, 4, 1);
+        x.lock(1, 4, 0);
+        x.lock(0, 21, 33);
+        Check.due("her rival's liking", x.give(0, 3, 9, 0), -66);
+        Check.due("undo", x.undo(), true);
+        x.lock(0, 20, 77);
+        Check.due("her rival's liking", x.give(0, 3, 9, 1), 77);
+        x.load(1, 12, 9);
+        Check.due("of this boat", x.give(1, 2, 9, 1), 33);
+        x.hours(11);
+        right(x, 1, "like hour;", 1);
+        Check.due("hour", x.give(0, 0, 1, 0), 11);
+        right(x, 1, "like presents;", 1);
+        Check.due("ahead of this one one", x.give(0, 0, 1, 0), 1);
+        Check.due("two", x.give(0, 0, 1, 0), 2);
+        Check.due("of the other lock two", x.give(0, 0, 1, 1), 2);
+        right(x, 1, "like good;", 1);
+        for (int good = 0; good < 4; good++) {
+            x.load(0, 10 + good, 99);
+            Check.due("good", x.give(0, good, 1, 0), good);
+        }
+        right(x, 1, "like amount;", 1);
+        for (int amount : new int[] {1, 2, 95}) {
+            Check.due("amount", x.give(0, 2, amount, 0), amount);
         }
     }
 

@@ -202,35 +202,27 @@ public final class MemoryBoundsTest {
         return x;
     }
 
-    private static void undoOfEachDoing() {
+    private static void goesBack(String call, Predicate<LockWives> act, int times) {
         LockWives x = busy("35: the latest PASSING, PRESENT, PULL, HOUR goes back, STATE, THE BOOK, SEA, too");
         int[] before = Check.sight(x);
-        Check.due("pass", x.pass(2, false, NONE), 2);
-        Check.due("SEA", x.look(3) > 0, true);
-        Check.due("undo", x.undo(), true);
-        Check.same("a passing down", x, before);
-        Check.due("pass", x.pass(5, true, 1), 0);
-        Check.due("undo", x.undo(), true);
-        Check.same("a passing up of two", x, before);
-        Check.due("give", x.give(0, 1, 20, 0), 99);
-        Check.due("undo", x.undo(), true);
-        Check.same("a present", x, before);
-        Check.due("pull", x.pull(2, 9), 9);
-        Check.due("SEA", x.look(3) > 0, true);
-        Check.due("undo", x.undo(), true);
-        Check.same("a pull", x, before);
-        Check.due("hours", x.hours(1), 1);
-        Check.due("STATE", x.look(5) != 77, true);
-        Check.due("lines", x.look(4), 2);
-        Check.due("SEA", x.look(3) != 0, true);
-        Check.due("undo", x.undo(), true);
-        Check.same("an hour", x, before);
-        Check.due("hours", x.hours(4), 4);
-        for (int i = 0; i < 4; i++) {
-            Check.due("undo", x.undo(), true);
+        Check.due(call, act.test(x), true);
+        for (int i = 0; i < times; i++) {
+            Check.due("undo of " + call, x.undo(), true);
         }
-        Check.same("four hours", x, before);
+        Check.same(call, x, before);
+        Check.due("no more", x.undo(), false);
         Check.due("it rains as before", x.hours(1), 1);
+        Check.due("drawn as before", x.look(5), 77 * 1664525 + 1013904223);
+    }
+
+    private static void undoOfEachDoing() {
+        goesBack("a passing down into the SEA", x -> x.pass(2, false, NONE) == 2 && x.look(3) == 6, 1);
+        goesBack("a passing up of two", x -> x.pass(5, true, 1) == 0 && x.of(1, 0) == 0, 1);
+        goesBack("a present", x -> x.give(0, 1, 20, 0) == 99 && x.at(0, 3) == 41, 1);
+        goesBack("a pull into the SEA", x -> x.pull(2, 9) == 9 && x.look(3) == 86, 1);
+        goesBack("an hour", x -> x.hours(1) == 1 && x.look(5) != 77 && x.look(4) == 2 && x.look(3) != 0, 1);
+        goesBack("four hours", x -> x.hours(4) == 4 && x.look(4) == 8, 4);
+        goesBack("ten hours", x -> x.hours(10) == 10 && x.look(4) == 20, 10);
     }
 
     private static void tenAreKept() {
@@ -448,8 +440,8 @@ public final class MemoryBoundsTest {
         int[] before = Check.sight(x);
         for (int i = 0; i < 3; i++) {
             Check.due("none", x.image(false), false);
-            Check.same("none", x, before);
         }
+        Check.same("none", x, before);
         Check.due("what can be undone stays", x.look(9), 1);
         Check.due("told anew there is none yet", x.canal(2), true);
         Check.due("none", x.image(false), false);
@@ -471,12 +463,31 @@ public final class MemoryBoundsTest {
     }
 
     private static LockWives told(String part) {
-        LockWives x = busy(part);
+        LockWives x = canal(part, 3);
+        x.boat(0, 7, 2);
+        x.boat(2, 9, 3);
+        x.load(0, 10, 5);
+        x.load(1, 13, 6);
+        x.lock(0, 0, 12);
+        x.lock(0, 1, 3);
+        x.lock(0, 2, 5);
+        x.lock(2, 3, -9);
+        x.lock(2, 4, 0);
+        x.lock(2, 13, 2);
+        x.lock(1, 20, 8);
+        x.lock(1, 21, -8);
+        x.pool(3, 960);
+        x.set(0, 1000);
+        x.set(1, 40);
+        x.set(2, 1);
+        x.set(3, 50);
+        x.set(4, 1);
+        x.state(77);
         Check.text(x, 0, "let;let;hold;");
         Check.text(x, 1, "like 3;like 4;");
         Check.text(x, 2, "pull 0 1;wait 2;wait 3;pull 1 1;");
         x.said(0, 1, 50);
-        x.said(1, 0, 7);
+        x.said(1, 0, 207);
         for (int pool = 0; pool <= 3; pool++) {
             x.tell(0, pool, 300 + pool);
             x.tell(1, pool, 10 + pool);
@@ -488,23 +499,22 @@ public final class MemoryBoundsTest {
     }
 
     private static void changeAll(LockWives x) {
-        x.canal(9);
-        for (int boat = 0; boat < 6; boat++) {
-            x.boat(9, 9, 9);
-            for (int good = 0; good < 4; good++) {
-                x.load(boat, 10 + good, 1);
-            }
-            for (int lock = 0; lock < 9; lock++) {
+        x.canal(4);
+        for (int boat = 0; boat < 3; boat++) {
+            x.boat(4, 9, 9);
+            x.load(boat, 10, 1);
+            x.load(boat, 13, 1);
+            for (int lock = 0; lock < 4; lock++) {
                 x.lock(lock, 20 + boat, 9);
             }
         }
-        for (int lock = 0; lock < 9; lock++) {
-            for (int what : new int[] {0, 1, 2, 3, 10, 11, 12, 13}) {
+        for (int lock = 0; lock < 4; lock++) {
+            for (int what : new int[] {0, 1, 2, 3, 10, 13}) {
                 x.lock(lock, what, 2);
             }
-            x.lock(lock, 4, 8 - lock);
+            x.lock(lock, 4, 3 - lock);
         }
-        for (int pool = 0; pool <= 9; pool++) {
+        for (int pool = 0; pool <= 4; pool++) {
             x.pool(pool, 500 + pool);
             x.tell(0, pool, 5);
             x.tell(1, pool, 6);
@@ -516,26 +526,27 @@ public final class MemoryBoundsTest {
         Check.text(x, 0, "hold;");
         Check.text(x, 1, "like 9;");
         Check.text(x, 2, "wait 9;");
-        for (int i = 0; i < 12; i++) {
-            x.said(9, 0, 9);
+        for (int i = 0; i < 3; i++) {
+            x.said(i, 0, 9);
         }
-        x.pull(8, 1);
+        x.pull(3, 1);
         x.hours(5);
     }
 
+    /** What cannot be seen, but shows in what is done and thought. */
     private static void asTold(LockWives x) {
         Check.due("range", x.range(0, 1), 50);
-        Check.due("range", x.range(1, 0), Math.max(7, x.look(11) - 50 - 2 * 999));
+        Check.due("range", x.range(1, 0), 207);
         Check.due("need", x.mend(12), 0);
-        Check.due("sort", x.book(0, 1), 1);
-        Check.due("sort", x.book(1, 1), 0);
-        Check.due("sort", x.book(2, 1), 3);
-        Check.due("sort", x.book(5, 1), 4);
+        int[] sorts = {1, 0, 3, 4, 3, 4};
+        for (int line = 0; line < sorts.length; line++) {
+            Check.due("sort", x.book(line, 1), sorts[line]);
+        }
         Check.due("hour", x.book(5, 0), 1);
         Check.due("no line", x.book(6, 0), NONE);
         Check.due("planned", x.planned(0), 4);
         Check.due("GATES let", x.far(0, false, 0), 2);
-        Check.due("HEARTS", x.give(1, 0, 1, 0), 3);
+        Check.due("HEARTS", x.give(0, 0, 1, 0), 3);
         Check.due("undo", x.undo(), true);
         Check.due("nothing else can be undone", x.undo(), false);
     }
@@ -549,7 +560,12 @@ public final class MemoryBoundsTest {
         Check.due("gone back to", x.image(false), true);
         Check.same("gone back to", x, before);
         asTold(x);
-        Check.same("gone back to", x, before);
+        Check.due("the same draws", x.hours(1), 1);
+        int state = 77;
+        for (int i = 0; i < 3; i++) {
+            state = state * 1664525 + 1013904223;
+        }
+        Check.due("the same draws", x.look(5), state);
     }
 
     private static void imageMoreThanOnce() {
@@ -559,9 +575,8 @@ public final class MemoryBoundsTest {
         int[] before = Check.sight(x);
         for (int i = 0; i < 4; i++) {
             Check.due("gone back to", x.image(false), true);
-            Check.same("again " + i, x, before);
             x.run();
-            x.give(1, 1, 2, 0);
+            x.give(0, 0, 2, 0);
             x.said(2, 0, 2);
             x.tell(0, 0, i);
             x.tell(1, 0, i);
@@ -569,6 +584,7 @@ public final class MemoryBoundsTest {
             x.state(i);
         }
         x.image(false);
+        Check.same("again", x, before);
         asTold(x);
     }
 

@@ -182,11 +182,12 @@ public final class PlanBoundsTest {
     }
 
     private static void endOfTheText() {
-        LockWives x = canal("3: FAULT 1 at the end has the text's length as its place", 2);
-        x.boat(1, 1, 1);
-        x.boat(1, 1, 1);
+        LockWives x = null;
         String[] steps = {"pass 0 up with 1 ;", "pass 0 down ;", "give 2 of 3 to 1 by 0 ;", "pull 1 9 ;", "wait 99 ;"};
         for (String step : steps) {
+            x = canal("3: FAULT 1 at the end has the text's length as its place", 2);
+            x.boat(1, 1, 1);
+            x.boat(1, 1, 1);
             right(x, step, 1);
             right(x, step + step, 2);
             for (int length = 1; length < step.length(); length++) {
@@ -218,14 +219,15 @@ public final class PlanBoundsTest {
     }
 
     private static void wordsOfThePlanAlone() {
-        LockWives x = canal("3: KEYWORDS of it alone", 1);
-        x.boat(0, 1, 1);
         for (String word : WORDS) {
+            LockWives x = canal("3: KEYWORDS of it alone", 1);
+            x.boat(0, 1, 1);
             Check.faulty(x, 2, word + " 1;", 1, 0);
             Check.faulty(x, 2, "pass 0 " + word + ";", 1, 7);
             Check.faulty(x, 2, "pass 0 up " + word + " 1;", 1, 10);
             Check.faulty(x, 2, "wait " + word + ";", 1, 5);
         }
+        LockWives x = canal("3: KEYWORDS of it alone", 1);
         for (String word : new String[] {"Wait", "WAIT", "waits", "wai", "awaits", "w"}) {
             Check.faulty(x, 2, word + " 1;", 1, 0);
         }
@@ -238,12 +240,12 @@ public final class PlanBoundsTest {
     private static void signsOfThePlanAlone() {
         LockWives x = canal("3: signs are ; alone", 1);
         for (int sign = 33; sign < 127; sign++) {
+            if (sign % 8 == 0) {
+                x = canal("3: signs are ; alone", 1);
+            }
             boolean letter = sign >= 'a' && sign <= 'z' || sign >= 'A' && sign <= 'Z';
             if (sign == ';' || letter || sign >= '0' && sign <= '9') {
                 continue;
-            }
-            if (sign % 16 == 0) {
-                x = canal("3: signs are ; alone", 1);
             }
             Check.faulty(x, 2, (char) sign + "wait 1;", 1, 0);
             Check.faulty(x, 2, "wait" + (char) sign + "1;", 1, 4);
@@ -523,6 +525,17 @@ public final class PlanBoundsTest {
         Check.beyond("planned", 0, 3, x::planned, IMPOSSIBLE);
         right(x, "wait 1;", 1);
         Check.beyond("planned", 0, 3, x::planned, IMPOSSIBLE);
+        x.boat(0, 1, 1);
+        x.load(0, 10, 5);
+        right(x, "pull 0 1;give 5 of 0 to 0 by 0;pass 0 up;", 3);
+        int[] then = {2, NONE, 1, 5};
+        for (int what = 0; what < 4; what++) {
+            Check.due("planned " + what, x.planned(what), then[what]);
+        }
+        right(x, "", 0);
+        for (int what = 0; what < 4; what++) {
+            Check.due("of none again, " + what, x.planned(what), 0);
+        }
     }
 
     private static void plannedCounts() {

@@ -492,12 +492,10 @@ public final class ThoughtBoundsTest {
     }
 
     private static void pulledOneToTwenty() {
-        LockWives x = canal("27: m is 1 to 20", 3);
         for (int fill : new int[] {1, 10, 45}) {
             for (int lock = 0; lock < 3; lock++) {
+                LockWives x = canal("27: m is 1 to 20", 3);
                 x.lock(lock, 0, fill);
-            }
-            for (int lock = 0; lock < 3; lock++) {
                 for (int m = 0; m <= 22; m++) {
                     int[] seen = {0, 0, 0, 0};
                     seen[lock] = 999;
@@ -512,8 +510,8 @@ public final class ThoughtBoundsTest {
                 }
             }
         }
+        LockWives x = canal("27: just the DEPTHS that are now", 3);
         see(x, 100, 200, 300, 400);
-        x.lock(1, 0, 10);
         fillTo(x, 100, 190, 310, 400);
         nowPulled(x, "once", 1, 1);
         for (int pool = 0; pool < 4; pool++) {
@@ -599,10 +597,11 @@ public final class ThoughtBoundsTest {
     }
 
     private static void mendJustEnough() {
-        LockWives x = canal("28: each POOL has its NEED at least", 1);
         for (int fill : new int[] {1, 7, 50}) {
+            LockWives x = canal("28: each POOL has its NEED at least", 1);
             x.lock(0, 0, fill);
-            for (int m = 0; m <= 100 / fill; m++) {
+            int most = 100 / fill;
+            for (int m = 0; m <= most; m += m == 2 ? Math.max(1, most - 4) : 1) {
                 need(x, 0, 100 + m * fill);
                 mended(x, "FILL " + fill + ", " + m + " of it", m);
                 if (m * fill < 100) {
