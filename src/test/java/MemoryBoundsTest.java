@@ -527,7 +527,7 @@ public final class MemoryBoundsTest {
         Check.text(x, 1, "like 9;");
         Check.text(x, 2, "wait 9;");
         for (int i = 0; i < 3; i++) {
-            x.said(i, 0, 9);
+            x.said(4 - i, 0, 9);
         }
         x.pull(3, 1);
         x.hours(5);
