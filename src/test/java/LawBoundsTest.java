@@ -208,6 +208,14 @@ public final class LawBoundsTest {
         Check.faulty(x, 1, "like 1 when 1=1 ", 1, 16);
         Check.faulty(x, 0, "let" + Check.repeat(" ", 397), 1, 400);
         Check.faulty(x, 0, "let" + Check.repeat(" ", 396), 1, 399);
+        x = canal("2: what ends with the 400th byte");
+        Check.faulty(x, 0, Check.repeat(" ", 397) + "let", 1, 400);
+        Check.faulty(x, 0, Check.repeat(" ", 397) + "hol", 1, 397);
+        Check.faulty(x, 1, Check.repeat(" ", 397) + "lik", 1, 397);
+        Check.faulty(x, 1, "like" + Check.repeat(" ", 395) + "1", 1, 400);
+        Check.faulty(x, 1, "like" + Check.repeat(" ", 390) + "liking", 1, 400);
+        right(x, 1, "like" + Check.repeat(" ", 389) + "liking;", 1);
+        right(x, 0, Check.repeat(" ", 396) + "let;", 1);
     }
 
     private static void partsByZero() {
@@ -331,11 +339,12 @@ public final class LawBoundsTest {
 
     private static void wordsThatBeginLines() {
         LockWives x = canal("2: {(let | hold) [when B] ;} and {like E [when B] ;}");
-        for (String word : new String[] {"like", "when", "and", "or", "not", "liking", "pass", "lets", "le", "Let", "LET", "holds", "hol"}) {
+        for (String word : new String[] {"like", "when", "and", "or", "not", "liking", "pass", "lets", "le", "et", "Let", "LET", "holds",
+            "hol", "old"}) {
             Check.faulty(x, 0, word + ";", 1, 0);
             Check.faulty(x, 0, "let;" + word + ";", 1, 4);
         }
-        for (String word : new String[] {"let", "hold", "when", "liking", "likes", "lik", "Like"}) {
+        for (String word : new String[] {"let", "hold", "when", "liking", "likes", "lik", "ike", "Like"}) {
             Check.faulty(x, 1, word + " 1;", 1, 0);
         }
         Check.faulty(x, 0, "let let;", 1, 4);

@@ -200,19 +200,24 @@ public final class PlanBoundsTest {
         }
         Check.faulty(x, 2, "wait 1 \n ", 1, 9);
         Check.faulty(x, 2, "wait" + Check.repeat(" ", 396), 1, 400);
+        Check.faulty(x, 2, Check.repeat(" ", 396) + "wait", 1, 400);
+        Check.faulty(x, 2, Check.repeat(" ", 396) + "pass", 1, 400);
+        Check.faulty(x, 2, Check.repeat(" ", 397) + "pas", 1, 397);
+        Check.faulty(x, 2, "wait" + Check.repeat(" ", 395) + "1", 1, 400);
+        right(x, "wait" + Check.repeat(" ", 394) + "1;", 1);
     }
 
     private static void whatCanStand() {
-        LockWives x = canal("3: the words of each STEP in their order", 2);
-        x.boat(1, 1, 1);
-        x.boat(1, 1, 1);
         String[] texts = {";", "1;", "0 pass up;", "wait 1;;", "pass 0 0 up;", "pass 0 up down;", "pass 0 with 1 up;",
             "pass 0 up 1;", "pass 0 up with 1 with 0;", "pass 0 up with up;", "give of 0 to 0 by 0;", "give 1 0 to 0 by 0;",
             "give 1 of to 0 by 0;", "give 1 of 0 0 by 0;", "give 1 of 0 by 0 to 0;", "give 1 of 0 to by 0;", "give 1 of 0 to 0;",
             "give 1 of 0 to 0 by;", "give 1 of 0 to 0 by 0 0;", "give by 0 1 of 0 to 0;", "pull 1 of 1;", "pull 1;", "wait;",
-            "wait 1 1;", "wait 1 wait 1;", "up;", "with 1;", "of 1;"};
-        int[] places = {0, 0, 0, 7, 7, 10, 7, 10, 17, 15, 5, 7, 10, 12, 12, 15, 16, 19, 22, 5, 7, 6, 4, 7, 7, 0, 0, 0};
+            "wait 1 1;", "wait 1 wait 1;", "up;", "down 1;", "with 1;", "of 1;", "to 1;", "by 1;"};
+        int[] places = {0, 0, 0, 7, 7, 10, 7, 10, 17, 15, 5, 7, 10, 12, 12, 15, 16, 19, 22, 5, 7, 6, 4, 7, 7, 0, 0, 0, 0, 0, 0};
         for (int i = 0; i < texts.length; i++) {
+            LockWives x = canal("3: the words of each STEP in their order", 2);
+            x.boat(1, 1, 1);
+            x.boat(1, 1, 1);
             Check.faulty(x, 2, texts[i], 1, places[i]);
             Check.faulty(x, 2, "wait 1;" + texts[i], 1, 7 + places[i]);
         }
@@ -228,7 +233,7 @@ public final class PlanBoundsTest {
             Check.faulty(x, 2, "wait " + word + ";", 1, 5);
         }
         LockWives x = canal("3: KEYWORDS of it alone", 1);
-        for (String word : new String[] {"Wait", "WAIT", "waits", "wai", "awaits", "w"}) {
+        for (String word : new String[] {"Wait", "WAIT", "waits", "wai", "ait", "awaits", "w", "ull", "ive", "ass"}) {
             Check.faulty(x, 2, word + " 1;", 1, 0);
         }
         for (String word : new String[] {"wait", "pass", "give", "pull", "down", "with", "of", "to", "by"}) {

@@ -744,6 +744,17 @@ public final class ThoughtBoundsTest {
         for (int i = 0; i < 4; i++) {
             Check.due("as they are", x.order(0b111010, false, 10 + i), all[i]);
         }
+        // none gets anywhere: of all orders, too, the first
+        Check.text(x, 0, "hold when liking<1;");
+        x.lock(0, 25, 1);
+        Check.due("the last one gets through one", x.order(0b110000, false, 0), 1);
+        Check.due("no matter when", x.order(0b110000, false, 10), 4);
+        x.lock(0, 25, 0);
+        Check.due("none gets anywhere", x.order(0b101010, false, 0), 0);
+        int[] none = {1, 3, 5};
+        for (int i = 0; i < 3; i++) {
+            Check.due("as they are", x.order(0b101010, false, 10 + i), none[i]);
+        }
         // only one gets through: it is the least
         Check.text(x, 0, "hold when passes>0;");
         Check.due("one of them", x.order(0b111010, false, 0), 3);
