@@ -408,8 +408,11 @@ public final class LockWives {
         return v >= low && v <= high;
     }
 
-    private static int held(int v, int most) {
-        return Math.max(-most, Math.min(most, v));
+    private static int held(int v) {
+        if (v > MOST_FEELING) {
+            return MOST_FEELING;
+        }
+        return v < -MOST_FEELING ? -MOST_FEELING : v;
     }
 
     private static boolean put(int[] row, int index, int v, int low, int high) {
@@ -576,12 +579,12 @@ public final class LockWives {
         }
 
         void likeMore(int lock, int boat, int more) {
-            liking[lock * MOST_BOATS + boat] = held(likingOf(lock, boat) + more, MOST_FEELING);
+            liking[lock * MOST_BOATS + boat] = held(likingOf(lock, boat) + more);
         }
 
         void receive(int lock, int boat, int delight) {
             likeMore(lock, boat, delight);
-            mood[lock] = held(mood[lock] + Integer.compare(delight, 0), MOST_FEELING);
+            mood[lock] = held(mood[lock] + Integer.compare(delight, 0));
             if (delight > 0 && rival[lock] != NONE) {
                 likeMore(rival[lock], boat, -(delight / 2));
             }
@@ -778,6 +781,9 @@ public final class LockWives {
             }
             int rained = 0;
             for (int i = 0; i < n; i++) {
+                if (past != null) {
+                    past.keep(this);
+                }
                 if (oneHour()) {
                     rained++;
                 }
@@ -787,9 +793,6 @@ public final class LockWives {
 
         /** Whether it rained. */
         boolean oneHour() {
-            if (past != null) {
-                past.keep(this);
-            }
             boolean rained = rain();
             for (int lock = 0; lock < locks; lock++) {
                 flow(lock, Math.min(leak[lock], depth[lock]));
@@ -893,7 +896,7 @@ public final class LockWives {
             facts[Law.AMOUNT] = amount;
             facts[Law.TASTE] = taste;
             facts[Law.PRESENTS] = keepers.presents[lock];
-            return held(hearts.answer(facts, taste * amount), MOST_FEELING);
+            return held(hearts.answer(facts, taste * amount));
         }
 
         private void knowKeeper(int lock, int boat) {
@@ -1641,8 +1644,10 @@ public final class LockWives {
         }
 
         private boolean isFact(int fact) {
-            return within(fact, LIKING, HOUR)
-                || (ofHearts ? within(fact, GOOD, PRESENTS) : within(fact, DRAUGHT, TWO));
+            if (fact <= HOUR) {
+                return fact >= LIKING;
+            }
+            return ofHearts ? fact >= GOOD && fact <= PRESENTS : fact <= TWO;
         }
 
         private void write(int op) {

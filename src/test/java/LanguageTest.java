@@ -13,6 +13,7 @@ import java.util.Set;
 import java.util.TreeSet;
 import java.util.regex.Matcher;
 import java.util.regex.Pattern;
+import java.util.stream.Stream;
 
 /** The rules of LANGUAGE.md that can be seen in the source or by reflection. */
 public final class LanguageTest {
@@ -34,6 +35,7 @@ public final class LanguageTest {
 
     public static void main(String[] args) throws IOException {
         Check.part("language");
+        oneFile();
         String source = Files.readString(Path.of("src/main/java/LockWives.java"));
         String code = withoutTextsAndComments(source);
         words(code);
@@ -43,6 +45,14 @@ public final class LanguageTest {
         face();
         classes();
         Check.finish("LanguageTest");
+    }
+
+    /** All Java files of the project but the tests: the program is one file. */
+    private static void oneFile() throws IOException {
+        try (Stream<Path> all = Files.walk(Path.of(""))) {
+            List<Path> program = all.filter(p -> p.toString().endsWith(".java") && !p.startsWith("src/test/java")).toList();
+            Check.due("the program's files: " + program, program.equals(List.of(Path.of("src/main/java/LockWives.java"))), true);
+        }
     }
 
     private static String withoutTextsAndComments(String source) {
